@@ -51,12 +51,13 @@ public final class RecipeForests {
     private int wrongPosition;
 
     public RecipeForests() {
-        forest = new Forest();
+        Forest trees = new Forest();
+        forest = trees;
         before = new Forest();
         saved = new Forest();
         isSaved = false;
         history = new History();
-        desk = new Desk(forest);
+        desk = new Desk(trees);
         walk = new Walk();
         input = new Input();
         orders = new Orders();
@@ -425,17 +426,14 @@ public final class RecipeForests {
         return commit >= 0 && commit < COMMITS ? 1 << commit : 0;
     }
 
-    // Float.floatToIntBits is outside of the language; doubling and halving a float keeps its fraction exactly.
+    // Float.floatToIntBits is outside of the language. A taste is below 1, as each ingredient adds at most 6/8 of
+    // its amount, and doubling a float keeps its fraction exactly.
     private static int bitsOf(float value) {
         if (!(value > 0.0f)) {
             return 0;
         }
         float scaled = value;
         int exponent = 127;
-        for (int i = 0; i < 127 && scaled >= 2.0f; i++) {
-            scaled = scaled / 2.0f;
-            exponent++;
-        }
         for (int i = 0; i < 126 && scaled < 1.0f; i++) {
             scaled = scaled * 2.0f;
             exponent--;

@@ -392,7 +392,7 @@ public final class PromiseTests {
             {"f", "1"}, {"f00", "2"}, {"f0f0", "2"}, {"f0;", "3"}, {"f0;e", "4"}, {"f-", "1"}, {"f9;f9;f9;q", "9"}, {"f0;m0<", "6"},
             {"m0<1", "4"}, {"m0<10!0", "4"}, {"m0<1!", "5"}, {"m0<1!10", "6"}, {"m0>1!1", "2"}, {"m0<1=1", "4"}, {"m<1!1", "1"},
             {"p0<1", "4"}, {"p0<10", "5"}, {"p0<10!", "6"}, {"p0<100!0", "5"}, {"p0<!0", "3"}, {"p0<1!00", "6"}, {"v0<10!x", "6"}, {"v0<", "3"},
-            {"r0", "2"}, {"r0=", "3"}, {"r0=1x", "4"}, {"r0=123", "5"}, {"r0<1", "2"}, {"r0=1;r", "6"}, {"v00", "2"}, {"p=", "1"},
+            {"r0", "2"}, {"r0=", "3"}, {"r0=1x", "4"}, {"r0=123", "5"}, {"r0<1", "2"}, {"r0=1;r", "6"}, {"v00", "2"}, {"m00<0!0", "2"}, {"p00<0!0", "2"}, {"r00=0", "2"}, {"e00.0=1", "2"}, {"p=", "1"},
         };
         for (String[] text : texts) {
             run(31, "append(\"" + text[0] + "\") -> " + text[0].length(), "errorPosition() -> -1; read()" + ARGUMENT,
@@ -466,5 +466,11 @@ public final class PromiseTests {
         run(39, "edit(0, 0, 1) -> 1; edit(0, 1, 2) -> 2; save() -> 3; undo() -> 1; undo() -> 0; edit(0, 3, 3) -> 1; edit(0, 4, 4) -> 2; fork(0) -> 1",
                 "restore() -> 3; amount(1, 0) -> 1; amount(1, 3) -> 0; amount(2, 1) -> 2; amount(2, 4) -> 0; account(1) -> 1; tip(0) -> 2",
                 "isIn(1, 2) -> true; base(1, 2) -> 1; commitOf(2, 5) -> 2");
+        // What was made anew in place of the commits of the snapshot goes with all that is known of them.
+        run(39, "edit(0, 0, 1) -> 1; revert(0, 1, 0) -> 2; fork(0) -> 1; edit(0, 1, 1) -> 3; edit(1, 2, 1) -> 4; merge(0, 1, 0) -> 5; save() -> 6",
+                "undo() -> 5; undo() -> 4; undo() -> 3; undo() -> 2; undo() -> 1; edit(0, 5, 1) -> 2; edit(0, 5, 2) -> 3; edit(0, 5, 3) -> 4",
+                "edit(0, 5, 4) -> 5; commitOf(5, 5) -> 5; restore() -> 6; commitOf(2, 0) -> 2; commitOf(5, 0) -> 1; commitOf(4, 1) -> 2",
+                "commitOf(5, 1) -> 3; commitOf(5, 2) -> 4; commitOf(5, 4) -> 5; commitOf(5, 5) -> 4; isIn(3, 4) -> false; base(3, 4) -> 2",
+                "account(2) -> 4; isWell() -> true");
     }
 }
