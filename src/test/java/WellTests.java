@@ -11,6 +11,7 @@ public final class WellTests {
         due("the pick 5 with two changes", "amounts", 5 * 6 + 3, 4, true);
         due("a first parent with its own number", "firsts", 4, 4, false);
         due("a first parent with a greater number", "firsts", 1, 3, false);
+        due("a second parent with its own number", "seconds", 3, 3, false);
         due("a second parent with a greater number", "seconds", 4, 5, false);
         due("an ancestor that is none", "families", 3, 0b1111, false);
         due("an ancestor that is missing", "families", 4, 0b10001, false);
