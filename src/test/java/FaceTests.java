@@ -74,11 +74,16 @@ public final class FaceTests {
         Class<?> face = RecipeForests.class;
         fault(face.getModifiers() != (Modifier.PUBLIC | Modifier.FINAL), "the class is not public and final");
         Constructor<?>[] constructors = face.getDeclaredConstructors();
-        fault(constructors.length != 1 || !Modifier.isPublic(constructors[0].getModifiers()), "the constructor is not the one of the face");
+        fault(constructors.length != 1 || constructors[0].getModifiers() != Modifier.PUBLIC || constructors[0].getParameterCount() != 0
+                || constructors[0].getExceptionTypes().length != 0, "the constructor is not the one of the face");
+        fault(face.getSuperclass() != Object.class || face.getInterfaces().length != 0 || face.getPackage().getName().length() != 0,
+                "the class stands below others, or in a package");
         Set<String> publicNames = new HashSet<>();
         for (Method method : face.getDeclaredMethods()) {
-            fault(!Modifier.isPublic(method.getModifiers()) && !Modifier.isPrivate(method.getModifiers()), method + " is neither public nor private");
-            if (Modifier.isPublic(method.getModifiers())) {
+            boolean isPublic = Modifier.isPublic(method.getModifiers());
+            fault(!isPublic && !Modifier.isPrivate(method.getModifiers()), method + " is neither public nor private");
+            fault(isPublic && method.getModifiers() != Modifier.PUBLIC, method + " is not as the face has it");
+            if (isPublic) {
                 publicNames.add(method.getName());
             }
         }

@@ -182,6 +182,10 @@ public final class ModelTests {
     }
 
     private void compare(String name, int... a) throws IllegalAccessException {
+        // A text can be cut off here: what later calls answer is free.
+        if (calls >= CALLS) {
+            return;
+        }
         calls++;
         String due = model.call(name, a);
         String got = answer(name, a);
